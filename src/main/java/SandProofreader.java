@@ -169,7 +169,7 @@ public final class SandProofreader {
     }
 
     public double confidence(int print) throws IndexOutOfBoundsException {
-        return 1.0 / (1.0 + requirePrint(print).doubts);
+        return 1.0 / (1.0 + (double) requirePrint(print).doubts);
     }
 
     public boolean isLate(int print) throws IndexOutOfBoundsException {
@@ -1233,8 +1233,10 @@ public final class SandProofreader {
                 case 'C':
                     print.settleDoubts();
                     break;
-                default:
+                case 'X':
                     beach.dropPrint(print);
+                    break;
+                default:
                     break;
             }
         }
