@@ -18,6 +18,8 @@ final class Runs {
     private static final Pattern ROW = Pattern.compile("(\\w+)\\((.*)\\) = (.*)");
     private static final Pattern SIGN_BY_CODE = Pattern.compile("\\(char\\) (\\d+)");
     private static final Pattern REPEATED = Pattern.compile("for N (from|in) ([^:]*): (.*)");
+    /** The N of "for N ..", but not that of NoSuchElementException. */
+    private static final String REPLACED = "N(?!oSuch)";
     /** What an object answers after its 512th call is free. */
     private static final int MOST_CALLS = 512;
     private static final Map<String, Method> FACE = new HashMap<>();
@@ -96,7 +98,7 @@ final class Runs {
         }
         for (String number : numbers(repeated.group(1), repeated.group(2))) {
             for (String each : repeated.group(3).split(" \\| ")) {
-                repeat(place, each.replaceAll("N(?!o)", number));
+                repeat(place, each.replaceAll(REPLACED, number));
             }
         }
     }
