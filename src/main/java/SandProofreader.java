@@ -1261,7 +1261,6 @@ public final class SandProofreader {
         /** Returns the offset of the first syntax error, or NONE. */
         int parse() {
             at = 0;
-            failed = false;
             count = 0;
             boolean more = true;
             for (int i = 0; i < commands.length && more; i++) {
